@@ -160,7 +160,7 @@ public final class SpillikinTable {
 
     public boolean lift(int s) throws NoSuchElementException {
         Stick stick = stickOnTable(s);
-        if (!isFree(s)) {
+        if (!tangleNow().isFree(s)) {
             return false;
         }
         takeAway(stick);
@@ -292,7 +292,7 @@ public final class SpillikinTable {
 
     public boolean free(int s) throws NoSuchElementException {
         stickOnTable(s);
-        return isFree(s);
+        return tangleNow().isFree(s);
     }
 
     public int order(int k) {
@@ -320,12 +320,12 @@ public final class SpillikinTable {
     }
 
     public int fewest() {
-        return remedyNow().worth;
+        return remedyFor(tangleNow()).worth;
     }
 
     public int few(int i) {
-        Remedy now = remedyNow();
-        return tangle.numberAt(placeInSet(now.places, i));
+        Tangle now = tangleNow();
+        return now.numberAt(placeInSet(remedyFor(now).places, i));
     }
 
     public int layer(int s) throws NoSuchElementException {
@@ -429,19 +429,15 @@ public final class SpillikinTable {
                     tangle.include(s, sticks[s].worth);
                 }
             }
-            lookAtAllPairs();
+            for (int a = 0; a < tangle.size; a++) {
+                for (int b = a + 1; b < tangle.size; b++) {
+                    lookAtPair(a, b);
+                }
+            }
             tangle.settle();
             tangleKnown = true;
         }
         return tangle;
-    }
-
-    private void lookAtAllPairs() {
-        for (int a = 0; a < tangle.size; a++) {
-            for (int b = a + 1; b < tangle.size; b++) {
-                lookAtPair(a, b);
-            }
-        }
     }
 
     private void lookAtPair(int a, int b) {
@@ -460,19 +456,12 @@ public final class SpillikinTable {
         }
     }
 
-    private Remedy remedyNow() {
-        Tangle now = tangleNow();
+    private Remedy remedyFor(Tangle now) {
         if (!remedyKnown) {
             remedy.find(now);
             remedyKnown = true;
         }
         return remedy;
-    }
-
-    private boolean isFree(int s) {
-        Tangle now = tangleNow();
-        int place = now.placeOf(s);
-        return place != NONE && now.above[place] == 0;
     }
 
     private CrossingList crossingsOf(int s) {
@@ -696,13 +685,14 @@ public final class SpillikinTable {
      */
     private static final class Sight {
         private final long[] direction = new long[AXES];
+        private int steepest;
         private final long[] p = new long[AXES];
         private final long[] q = new long[AXES];
         private final long[] gap = new long[AXES];
         private final long[] pSeen = new long[AXES];
         private final long[] qSeen = new long[AXES];
         private final long[] gapSeen = new long[AXES];
-        private final long[] endSeen = new long[AXES];
+        private final long[] normal = new long[AXES];
         private boolean offered;
         private long placeTop;
         private long placeBottom;
@@ -711,12 +701,14 @@ public final class SpillikinTable {
 
         Sight() {
             direction[2] = 1;
+            steepest = 2;
         }
 
         void lookAlong(int x, int y, int z) {
             direction[0] = x;
             direction[1] = y;
             direction[2] = z;
+            steepest = widestAxis(direction);
         }
 
         boolean touch(Stick a, Stick b) {
@@ -740,7 +732,6 @@ public final class SpillikinTable {
         }
 
         private boolean piecesTouch() {
-            long[] normal = endSeen;
             cross(p, q, normal);
             if (isZero(normal)) {
                 return parallelPiecesTouch();
@@ -785,75 +776,57 @@ public final class SpillikinTable {
         }
 
         /**
-         * The pieces are seen as points or as parallel lines. All pairs of parts at which they cross
-         * then lie between pairs of which one is an end, so it is enough to offer the ends.
+         * The pieces are seen as points or as parallel lines, so that one axis tells where on the line
+         * they are. All pairs of parts at which they cross lie between pairs of which one is an end.
          */
         private boolean seesInOneLine() {
             cross(p, direction, pSeen);
             cross(q, direction, qSeen);
             cross(gap, direction, gapSeen);
+            long[] line = isZero(pSeen) ? qSeen : pSeen;
+            int axis = widestAxis(line);
+            if (!isMultiple(gapSeen, line, axis)) {
+                return false;
+            }
             offered = false;
             for (int end = 0; end <= 1; end++) {
-                offerEndOfP(end);
-                offerEndOfQ(end);
+                offerEnd(true, end, pSeen[axis], qSeen[axis], -gapSeen[axis]);
+                offerEnd(false, end, qSeen[axis], pSeen[axis], gapSeen[axis]);
             }
             return offered;
         }
 
-        private void offerEndOfP(int end) {
-            for (int axis = 0; axis < AXES; axis++) {
-                endSeen[axis] = end * pSeen[axis] - gapSeen[axis];
+        /** Offers an end of p, or else of q, with the part of the other piece that is seen at it, if any is. */
+        private void offerEnd(boolean ofP, int end, long own, long other, long shift) {
+            long part = end * own + shift;
+            if (other == 0 && part == 0) {
+                offer(ofP, end, 0, 1);
+                offer(ofP, end, 1, 1);
             }
-            int axis = widestAxis(qSeen);
-            if (!isMultiple(endSeen, qSeen, axis)) {
+            if (other == 0) {
                 return;
             }
-            long whole = Math.abs(qSeen[axis]);
-            if (whole == 0) {
-                offer(end, 0, 1);
-                offer(end, 1, 1);
-                return;
-            }
-            long part = qSeen[axis] < 0 ? -endSeen[axis] : endSeen[axis];
-            if (isPart(part, whole)) {
-                offer(end * whole, part, whole);
-            }
-        }
-
-        private void offerEndOfQ(int end) {
-            for (int axis = 0; axis < AXES; axis++) {
-                endSeen[axis] = gapSeen[axis] + end * qSeen[axis];
-            }
-            int axis = widestAxis(pSeen);
-            if (!isMultiple(endSeen, pSeen, axis)) {
-                return;
-            }
-            long whole = Math.abs(pSeen[axis]);
-            if (whole == 0) {
-                offer(0, end, 1);
-                offer(1, end, 1);
-                return;
-            }
-            long part = pSeen[axis] < 0 ? -endSeen[axis] : endSeen[axis];
-            if (isPart(part, whole)) {
-                offer(part, end * whole, whole);
+            long sign = other < 0 ? -1 : 1;
+            long whole = sign * other;
+            if (isPart(sign * part, whole)) {
+                offer(ofP, end * whole, sign * part, whole);
             }
         }
 
         /** The pieces cross at these parts of whole: keeps the least place and the least height. */
-        private void offer(long onP, long onQ, long whole) {
-            int axis = widestAxis(direction);
-            long bottom = whole * direction[axis];
-            long top = whole * gap[axis] + onQ * q[axis] - onP * p[axis];
-            if (bottom < 0) {
-                bottom = -bottom;
-                top = -top;
-            }
+        private void offer(boolean ofP, long own, long other, long whole) {
+            long onP = ofP ? own : other;
+            long onQ = ofP ? other : own;
+            long sign = direction[steepest] < 0 ? -1 : 1;
+            long bottom = sign * whole * direction[steepest];
+            long top = sign * (whole * gap[steepest] + onQ * q[steepest] - onP * p[steepest]);
             if (!offered || onP * placeBottom < placeTop * whole) {
                 placeTop = onP;
                 placeBottom = whole;
             }
-            if (!offered || Math.abs(top) * heightBottom < Math.abs(heightTop) * bottom) {
+            long amount = top < 0 ? -top : top;
+            long least = heightTop < 0 ? -heightTop : heightTop;
+            if (!offered || amount * heightBottom < least * bottom) {
                 heightTop = top;
                 heightBottom = bottom;
             }
@@ -1008,6 +981,11 @@ public final class SpillikinTable {
 
         boolean isAbove(int a, int b) {
             return isPlace(a) && isPlace(b) && isIn(above[b], a);
+        }
+
+        boolean isFree(int number) {
+            int place = placeOf(number);
+            return place != NONE && above[place] == 0;
         }
 
         private boolean isPlace(int place) {
