@@ -807,11 +807,14 @@ public final class SpillikinTableModel {
         final int steep;
         final int most;
         final int hooks;
+        /** Most sticks lie in one plane, and so does the direction: one behind the other, or as points. */
+        final boolean flat;
         final SpillikinTable t = new SpillikinTable();
         final Model m = new Model();
 
-        Run(String name, long seed, int far, int steep, int most, int hooks) {
-            this.name = name;
+        Run(long seed, int far, int steep, int most, int hooks, boolean flat) {
+            this.name = "run " + seed;
+            this.flat = flat;
             this.random = new Random(seed);
             this.far = far;
             this.steep = steep;
@@ -854,7 +857,7 @@ public final class SpillikinTableModel {
             int n = kind == 1 ? 9 : 6;
             for (int i = 0; i < n; i++) {
                 int at = i;
-                int v = within(far);
+                int v = flat && i % 3 == 1 ? within(50) / 50 : within(far);
                 due(name, "put(0, 0, " + at + ", " + v + ")", () -> t.put(0, 0, at, v), () -> m.put(0, 0, at, v));
             }
             int mark = kind >= 2 ? random.nextInt(128) : 0;
@@ -868,7 +871,7 @@ public final class SpillikinTableModel {
             switch (random.nextInt(15)) {
                 case 0: {
                     int x = within(steep);
-                    int y = within(steep);
+                    int y = flat ? 0 : within(steep);
                     int z = within(steep);
                     due(name, "turn(" + x + ", " + y + ", " + z + ")", () -> {
                         t.turn(x, y, z);
@@ -1082,7 +1085,7 @@ public final class SpillikinTableModel {
     }
 
     public static void main(String[] args) {
-        int runs = args.length > 0 ? Integer.parseInt(args[0]) : 60;
+        int runs = args.length > 0 ? Integer.parseInt(args[0]) : 120;
         long seed = args.length > 1 ? Long.parseLong(args[1]) : 1;
         int[] fars = {3, 6, 15, 100, 1000};
         int[] steeps = {1, 2, 5, 100};
@@ -1090,7 +1093,7 @@ public final class SpillikinTableModel {
             int far = fars[i % 5];
             int steep = steeps[i % 4];
             int most = new int[] {4, 9, 14, 7, 22, 11, 18}[i % 7];
-            new Run("run " + (seed + i), seed + i, far, steep, most, i % 3 * 4).start();
+            new Run(seed + i, far, steep, most, i % 3 * 4, i % 6 > 3).start();
         }
         System.out.println(calls + " calls; crossings " + MET[0] + ", knots " + MET[1] + ", greatest " + MET[2]
                 + ", longest ring " + MET[3] + ", most few " + MET[4] + ", too great " + MET[5] + ", deepest layer "

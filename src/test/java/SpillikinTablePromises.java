@@ -78,8 +78,25 @@ public final class SpillikinTablePromises {
 
     static void addRing(SpillikinTable t, int worth, int dx) {
         lay(t, worth > 1 ? 3 : 0, 0, worth, dx - 10, 0, 0, dx + 10, 0, 20);
+        addRestOfRing(t, dx);
+    }
+
+    static void addRestOfRing(SpillikinTable t, int dx) {
         stick(t, dx + 5, -10, 10, dx + 5, 12, 10);
         stick(t, dx - 10, -5, 8, dx + 6, 11, 8);
+    }
+
+    /** Sticks round a circle, each of which rises over the next one; each bars the next, the last the first. */
+    static SpillikinTable circle(int n) {
+        SpillikinTable t = table();
+        double half = 900 * Math.tan(Math.PI / n) * 1.2;
+        for (int i = 0; i < n; i++) {
+            double x = Math.cos(2 * Math.PI * i / n);
+            double y = Math.sin(2 * Math.PI * i / n);
+            stick(t, Math.round(800 * x + half * y), Math.round(800 * y - half * x), -50,
+                    Math.round(800 * x - half * y), Math.round(800 * y + half * x), 50);
+        }
+        return t;
     }
 
     static String page(SpillikinTable t) {
@@ -256,6 +273,9 @@ public final class SpillikinTablePromises {
         is(7, "a hook back beyond", stick(t, 0, 0, 0, 4, 4, 4, -2, -2, -2), -4);
         is(7, "a straight hook", stick(t, 0, 0, 0, 4, 4, 4, 6, 6, 6), 1);
         is(7, "its end touched", stick(t, 6, 6, 6, 8, 8, 8), -11);
+        is(7, "its end touched from afar", stick(t, 8, 8, 8, 6, 6, 6), -11);
+        is(7, "its start touched", stick(t, 0, 0, 0, -1, -1, -1), -11);
+        is(7, "its start touched from afar", stick(t, -1, -1, -1, 0, 0, 0), -11);
         is(7, "its middle touched", stick(t, 2, 2, 3, 2, 2, 1), -11);
         is(7, "in its line, behind it", stick(t, 7, 7, 7, 8, 8, 8), 2);
         is(7, "in its line, over both", stick(t, -9, -9, -9, 9, 9, 9), -11);
@@ -564,6 +584,23 @@ public final class SpillikinTablePromises {
         is(18, "the piece that is barred", hooks.crossing(0, 1, 3), 0);
     }
 
+    /** As many crossings as there can be: each piece of 39 hooks crosses both pieces of another one. */
+    static void crossingMost() {
+        SpillikinTable t = table();
+        stick(t, -1000, 0, 0, 1000, 1, 0, -1000, 2, 0);
+        for (int i = 1; i < 40; i++) {
+            stick(t, -20 * i, -500, i, 1 - 20 * i, 500, i, 2 - 20 * i, -500, i);
+        }
+        is(17, "crossings of a full table", t.crossings(0), 156);
+        is(18, "its first", t.crossing(0, 0, 1), 39);
+        is(18, "its piece's last", t.crossing(0, 77, 1), 1);
+        is(18, "its other piece's first", t.crossing(0, 78, 1), 1);
+        is(18, "its last", t.crossing(0, 155, 1), 39);
+        is(18, "its last piece", t.crossing(0, 155, 0), 1);
+        is(18, "no more", t.crossing(0, 156, 0), -1);
+        is(14, "count(5)", t.count(5), 39);
+    }
+
     static void printing() {
         SpillikinTable t = table();
         stick(t, 0, 0, 0, 3, 0, 0);
@@ -615,6 +652,31 @@ public final class SpillikinTablePromises {
         is(17, "in its line, beside it", t.crossings(5), 0);
         t.turn(0, 0, -2);
         prints(19, t, 2, 2, 1, "13/2");
+        for (int turned = 0; turned < 4; turned++) {
+            SpillikinTable column = table();
+            int low = turned % 2 * 5;
+            int high = turned / 2 * 2;
+            stick(column, 3, 4, low, 3, 4, 5 - low);
+            stick(column, 3, 4, 7 + high, 3, 4, 9 - high);
+            prints(19, column, 0, 0, 0, "0");
+            prints(19, column, 0, 0, 1, "2");
+            prints(19, column, 1, 0, 0, "0");
+            prints(19, column, 1, 0, 1, "-2");
+        }
+        SpillikinTable slopes = table();
+        stick(slopes, 0, 0, 0, 7, 0, 3);
+        stick(slopes, -2, 0, 20, 5, 0, 15);
+        prints(19, slopes, 0, 0, 0, "0");
+        prints(19, slopes, 0, 0, 1, "90/7");
+        prints(19, slopes, 1, 0, 0, "2/7");
+        prints(19, slopes, 1, 0, 1, "-90/7");
+        slopes.turn(-1, 0, -10);
+        prints(19, slopes, 0, 0, 0, "0");
+        prints(19, slopes, 0, 0, 1, "-90/67");
+        prints(19, slopes, 1, 0, 0, "8/15");
+        prints(19, slopes, 1, 0, 1, "90/67");
+        slopes.turn(-3, 0, 2);
+        is(17, "past each other", slopes.crossings(0), 0);
     }
 
     static void orders() {
@@ -729,6 +791,46 @@ public final class SpillikinTablePromises {
         is(24, "12 are not", more.fewest(), 1);
     }
 
+    static void knottingRound() {
+        SpillikinTable mixed = table();
+        stick(mixed, -10, 0, 0, 10, 0, 20);
+        addRing(mixed, 1, 100);
+        addRestOfRing(mixed, 0);
+        is(22, "two knots", mixed.knots(), 2);
+        is(23, "the first has the least", mixed.knot(0, 0, 0), 0);
+        is(23, "and others behind the second's", mixed.knot(0, 0, 1), 4);
+        is(23, "the second", mixed.knot(1, 0, 0), 1);
+        is(25, "one of each, rising", mixed.few(0), 0);
+        is(25, "one of each, rising, then", mixed.few(1), 1);
+
+        SpillikinTable late = table();
+        stick(late, 0, -5, 5, 0, 5, 5, 10, -5, -15);
+        stick(late, 20, -5, 5, 20, 5, 5, 30, -5, -15);
+        lay(late, 3, 0, 2, -500, 0, 0, 500, 0, 0);
+        is(24, "two or a dear one", late.fewest(), 2);
+        is(25, "the fewer, though it is later", late.few(0), 2);
+        is(25, "and no more", late.few(1), NONE);
+
+        SpillikinTable forty = circle(40);
+        is(14, "pairs of a circle", forty.count(5), 40);
+        is(22, "a circle of forty", forty.knots(), 1);
+        for (int i = 0; i < 40; i++) {
+            is(23, "its ring", forty.knot(0, 1, i), (40 - i) % 40);
+        }
+        is(23, "its ring's end", forty.knot(0, 1, 40), NONE);
+        is(24, "it is too great", forty.fewest(), -1);
+        forty.away(7);
+        is(24, "but not without one", forty.fewest(), 0);
+        is(26, "its layers", forty.layer(6), 38);
+        SpillikinTable twelve = circle(12);
+        is(24, "a circle of twelve", twelve.fewest(), 1);
+        is(25, "the first of it", twelve.few(0), 0);
+        for (int i = 0; i < 12; i++) {
+            twelve.push(11 - i);
+        }
+        is(28, "its ring, from another one on", twelve.check(1), NONE);
+    }
+
     static void proofs() {
         SpillikinTable t = pile();
         for (int i = 1; i <= 40; i++) {
@@ -810,9 +912,11 @@ public final class SpillikinTablePromises {
         counting();
         barring();
         crossingRows();
+        crossingMost();
         printing();
         orders();
         knotting();
+        knottingRound();
         proofs();
         octets();
         System.out.println(wrong == 0 ? "all answers are as due" : wrong + " answers are not as due");
