@@ -257,11 +257,10 @@ public final class SpillikinTable {
     }
 
     public int crossing(int s, int k, int what) throws NoSuchElementException {
-        CrossingList list = crossingsOf(s);
-        if (k < 0 || k >= list.size) {
+        Crossing chosen = crossingsOf(s).at(k);
+        if (chosen == null) {
             return NONE;
         }
-        Crossing chosen = list.rows[k];
         switch (what) {
             case 0:
                 return chosen.piece;
@@ -277,11 +276,10 @@ public final class SpillikinTable {
     }
 
     public int print(int s, int k, int what) throws NoSuchElementException {
-        CrossingList list = crossingsOf(s);
-        if (k < 0 || k >= list.size || what < 0 || what > 1) {
+        Crossing chosen = crossingsOf(s).at(k);
+        if (chosen == null || what < 0 || what > 1) {
             return NONE;
         }
-        Crossing chosen = list.rows[k];
         if (what == 0) {
             page.showFraction(chosen.placeTop, chosen.placeBottom);
         } else {
@@ -358,7 +356,7 @@ public final class SpillikinTable {
     }
 
     private Box boxWithRow(int box, int k) {
-        if (box < 0 || box >= boxCount || k < 0 || k >= ROWS) {
+        if (box < 0 || box >= boxCount || boxes[box] == null || k < 0 || k >= ROWS) {
             throw new IndexOutOfBoundsException("no such box or row");
         }
         return boxes[box];
@@ -441,8 +439,13 @@ public final class SpillikinTable {
     }
 
     private void lookAtPair(int a, int b) {
-        Stick stickA = sticks[tangle.numbers[a]];
-        Stick stickB = sticks[tangle.numbers[b]];
+        int numberA = tangle.numberAt(a);
+        int numberB = tangle.numberAt(b);
+        if (!wasGiven(numberA) || !wasGiven(numberB)) {
+            return;
+        }
+        Stick stickA = sticks[numberA];
+        Stick stickB = sticks[numberB];
         for (int i = 0; i < stickA.pieces; i++) {
             for (int j = 0; j < stickB.pieces; j++) {
                 if (sight.sees(stickA, i, stickB, j)) {
@@ -920,6 +923,11 @@ public final class SpillikinTable {
         private int size;
         private int owner = NONE;
 
+        /** Crossing k, or null without one. */
+        Crossing at(int k) {
+            return k < 0 || k >= size ? null : rows[k];
+        }
+
         void insert(int piece, int other, int otherPiece, Sight sight) {
             if (size >= rows.length) {
                 return;
@@ -929,12 +937,12 @@ public final class SpillikinTable {
             }
             Crossing added = rows[size];
             added.set(piece, other, otherPiece, sight);
-            int at = size;
-            while (at > 0 && added.precedes(rows[at - 1])) {
-                rows[at] = rows[at - 1];
-                at--;
+            int place = size;
+            while (place > 0 && added.precedes(rows[place - 1])) {
+                rows[place] = rows[place - 1];
+                place--;
             }
-            rows[at] = added;
+            rows[place] = added;
             size++;
         }
     }
