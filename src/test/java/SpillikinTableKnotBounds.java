@@ -250,6 +250,38 @@ public final class SpillikinTableKnotBounds extends TableCheck {
         is("no more", many.knot(0, 1, 40), NONE);
     }
 
+    static void knotsOfNow() {
+        says(23, "KNOT k; NONE: as the table is now");
+        SpillikinTable t = ring(1, 0);
+        addRing(t, 1, 100);
+        is("the second", knot(t, 1), "3 4 5");
+        is("its ring", ring(t, 1), "3 5 4");
+        is("few", few(t), "2: 0 3");
+        t.away(4);
+        is("the second is none", t.knot(1, 0, 0), NONE);
+        is("and has no ring", t.knot(1, 1, 0), NONE);
+        is("few without it", few(t), "1: 0");
+        t.away(0);
+        is("the first is none", t.knot(0, 0, 0), NONE);
+        is("few without both", few(t), "0:");
+        t.undo();
+        t.undo();
+        is("the second again", knot(t, 1), "3 4 5");
+        t.turn(0, 0, -1);
+        is("the rings from below", ring(t, 0) + ", " + ring(t, 1), "0 1 2, 3 4 5");
+        t.turn(0, 1, 0);
+        is("from the side", t.knots(), 0);
+        is("few from the side", few(t), "0:");
+        t.turn(0, 0, 1);
+        for (int s = 3; s < 6; s++) {
+            t.away(s);
+        }
+        t.move(1, 0, 0, 50);
+        is("moved away from each other", t.knots(), 0);
+        t.undo();
+        is("moved back", ring(t, 0), "0 2 1");
+    }
+
     static void thirteenHeld() {
         says(24, "(Told if no KNOT has more than 12 STICKS.) -1: a KNOT has more than 12.");
         is("a comb of 12", few(combs(11, 1)), "1: 0");
@@ -334,6 +366,12 @@ public final class SpillikinTableKnotBounds extends TableCheck {
         is("the second, the first, the third", fewOfPath(1, 0, 2, 3), "2: 0 2");
         is("the ends first", fewOfPath(0, 3, 1, 2), "2: 0 3");
         is("a ring of three", few(ring(1, 0)), "1: 0");
+        SpillikinTable t = table();
+        addComb(t, 0, 2);
+        stick(t, 0, 95, 5, 0, 105, 5, 10, 95, -15);
+        stick(t, 20, 95, 5, 20, 105, 5, 30, 95, -15);
+        stick(t, -500, 100, 0, 500, 100, 0);
+        is("a bar that is laid first, and one that is laid last", few(t), "2: 0 5");
     }
 
     static void layers() {
@@ -529,6 +567,7 @@ public final class SpillikinTableKnotBounds extends TableCheck {
         knotsOfTwoOrMore();
         noSuchKnot();
         rings();
+        knotsOfNow();
         thirteenHeld();
         noSuchFew();
         leastWorth();

@@ -1,6 +1,10 @@
+import java.lang.reflect.InvocationTargetException;
+import java.lang.reflect.Method;
+import java.lang.reflect.Modifier;
 import java.math.BigInteger;
 import java.util.ArrayList;
 import java.util.Arrays;
+import java.util.Comparator;
 import java.util.HashSet;
 import java.util.List;
 import java.util.NoSuchElementException;
@@ -717,14 +721,21 @@ public final class SpillikinTableModel {
             return knots() > 0 ? -1 : depth(s);
         }
 
+        /** By peeling off all that are free at once, as often as it takes to come to the stick. */
         int depth(int s) {
-            int depth = 0;
-            for (int other : all()) {
-                if (barring()[other][s]) {
-                    depth = Math.max(depth, 1 + depth(other));
+            Set<Integer> left = all();
+            for (int depth = 0; ; depth++) {
+                if (freeAmong(s, left)) {
+                    return depth;
                 }
+                Set<Integer> still = new TreeSet<>();
+                for (int other : left) {
+                    if (!freeAmong(other, left)) {
+                        still.add(other);
+                    }
+                }
+                left = still;
             }
-            return depth;
         }
 
         int push(int s) {
@@ -800,6 +811,48 @@ public final class SpillikinTableModel {
     /** What the drawn runs met, so that a run that meets nothing is seen. */
     static final int[] MET = new int[8];
 
+    static final int[] INTS = {Integer.MIN_VALUE, Integer.MIN_VALUE + 1, -2001, -1001, -1000, -101, -100, -31, -11, -2,
+        -1, 0, 1, 2, 3, 4, 5, 6, 7, 8, 9, 12, 13, 19, 20, 29, 30, 31, 39, 40, 41, 99, 100, 101, 127, 128, 1000, 1001,
+        2001, 65535, 65536, Integer.MAX_VALUE - 1, Integer.MAX_VALUE};
+    static final long[] LONGS = {Long.MIN_VALUE, Long.MIN_VALUE + 1, -(1L << 32), Integer.MIN_VALUE, -65536, -1001,
+        -1000, -1, 0, 1, 2, 5, 1000, 1001, 32767, 32768, 65535, 65536, 65537, Integer.MAX_VALUE, 1L << 31, 1L << 32,
+        (1L << 32) + 1, Long.MAX_VALUE};
+    static final Method[] FACE = face();
+
+    static Method[] face() {
+        List<Method> open = new ArrayList<>();
+        for (Method method : SpillikinTable.class.getDeclaredMethods()) {
+            if (Modifier.isPublic(method.getModifiers())) {
+                open.add(method);
+            }
+        }
+        // the machine tells them in any order
+        open.sort(Comparator.comparing(Method::getName));
+        return open.toArray(new Method[0]);
+    }
+
+    static Method modelOf(Method method) {
+        try {
+            return Model.class.getDeclaredMethod(method.getName(), method.getParameterTypes());
+        } catch (NoSuchMethodException e) {
+            throw new AssertionError(e);
+        }
+    }
+
+    static long called(Method method, Object on, Object[] arguments) {
+        try {
+            Object answer = method.invoke(on, arguments);
+            return answer == null ? 0 : answer instanceof Boolean b ? bit(b) : ((Number) answer).longValue();
+        } catch (InvocationTargetException e) {
+            if (e.getCause() instanceof RuntimeException thrown) {
+                throw thrown;
+            }
+            throw new AssertionError(e.getCause());
+        } catch (IllegalAccessException e) {
+            throw new AssertionError(e);
+        }
+    }
+
     static final class Run {
         final String name;
         final Random random;
@@ -849,6 +902,73 @@ public final class SpillikinTableModel {
             // a step is at most some 100 calls
             while (calls - begun < 400) {
                 step();
+            }
+        }
+
+        /** As many sticks as there can be, far more than start() has calls for. */
+        void crowd() {
+            long begun = calls;
+            due(name, "box(2)", () -> t.box(2), () -> m.box(2));
+            due(name, "row(0, 0, 9)", () -> t.row(0, 0, 9), () -> m.row(0, 0, 9));
+            while (calls - begun < 330 && m.table.size() < 40) {
+                for (int i = 0; i < 4; i++) {
+                    int at = random.nextInt(9);
+                    int v = within(far);
+                    due(name, "put(0, 0, " + at + ", " + v + ")", () -> t.put(0, 0, at, v), () -> m.put(0, 0, at, v));
+                }
+                int kind = random.nextInt(10) < hooks ? 1 : 0;
+                due(name, "lay(" + kind + ", 0, 0, 0, 1)", () -> t.lay(kind, 0, 0, 0, 1), () -> m.lay(kind, 0, 0, 0, 1));
+            }
+            MET[7] = Math.max(MET[7], m.table.size());
+            while (calls - begun < 400) {
+                step();
+            }
+        }
+
+        /** A run up to the last call that counts, with arguments at the limits and far beyond them. */
+        void wild() {
+            long begun = calls;
+            due(name, "box(1)", () -> t.box(1), () -> m.box(1));
+            due(name, "row(0, 0, 9)", () -> t.row(0, 0, 9), () -> m.row(0, 0, 9));
+            while (calls - begun < 512) {
+                if (random.nextInt(12) == 0 && calls - begun < 500) {
+                    layOne();
+                } else {
+                    anyCall();
+                }
+            }
+        }
+
+        void anyCall() {
+            Method on = FACE[random.nextInt(FACE.length)];
+            if (on.getName().startsWith("few") && !modelCanTell()) {
+                return;
+            }
+            Class<?>[] types = on.getParameterTypes();
+            Object[] arguments = new Object[types.length];
+            for (int i = 0; i < types.length; i++) {
+                if (types[i] == long.class) {
+                    arguments[i] = LONGS[random.nextInt(LONGS.length)];
+                } else {
+                    arguments[i] = argument();
+                }
+            }
+            due(name, on.getName() + Arrays.toString(arguments), () -> called(on, t, arguments),
+                    () -> called(modelOf(on), m, arguments));
+        }
+
+        int argument() {
+            switch (random.nextInt(8)) {
+                case 0:
+                case 1:
+                    return INTS[random.nextInt(INTS.length)];
+                case 2:
+                case 3:
+                    return here();
+                case 4:
+                    return within(12);
+                default:
+                    return random.nextInt(3);
             }
         }
 
@@ -1095,9 +1215,15 @@ public final class SpillikinTableModel {
             int most = new int[] {4, 9, 14, 7, 22, 11, 18}[i % 7];
             new Run(seed + i, far, steep, most, i % 3 * 4, i % 6 > 3).start();
         }
+        for (int i = 0; i < runs / 10; i++) {
+            new Run(seed + i, fars[i % 5], steeps[i % 4], 40, i % 3 * 4, false).crowd();
+        }
+        for (int i = 0; i < runs / 2; i++) {
+            new Run(seed + i, fars[i % 5], steeps[i % 4], 40, i % 3 * 4, i % 6 > 3).wild();
+        }
         System.out.println(calls + " calls; crossings " + MET[0] + ", knots " + MET[1] + ", greatest " + MET[2]
                 + ", longest ring " + MET[3] + ", most few " + MET[4] + ", too great " + MET[5] + ", deepest layer "
-                + MET[6]);
+                + MET[6] + ", fullest table " + MET[7]);
         System.out.println(wrong == 0 ? "all answers are as due" : wrong + " answers are not as due");
         if (wrong != 0) {
             System.exit(1);

@@ -142,6 +142,8 @@ public final class SpillikinTableSightBounds extends TableCheck {
         crossesAt("alike all along", two(at(0, 0, 0, 10, 0, 7), at(0, 0, 2, 10, 0, 9)), "0 2 0 -2");
         crossesAt("post under post", two(at(0, 0, 9, 0, 0, 7), at(0, 0, 0, 0, 0, 5)), "0 -2 0 2");
         crossesAt("post over post", two(at(0, 0, 5, 0, 0, 0), at(0, 0, 9, 0, 0, 7)), "0 2 0 -2");
+        crossesAt("post over post, both from the gap on", two(at(0, 0, 5, 0, 0, 0), at(0, 0, 7, 0, 0, 9)), "0 2 0 -2");
+        crossesAt("post over post, both to the gap", two(at(0, 0, 0, 0, 0, 5), at(0, 0, 9, 0, 0, 7)), "0 2 0 -2");
         crossesAt("a post's top", two(at(-3, 0, 9, 3, 0, 12), at(0, 0, 5, 0, 0, 0)), "1/2 -11/2 0 11/2");
         SpillikinTable back = two(at(0, 0, 0, 10, 0, 0), at(0, 0, 9, 10, 0, 4));
         back.turn(0, 0, -8);

@@ -221,6 +221,14 @@ public final class SpillikinTableStickBounds extends TableCheck {
         t.undo();
         is("one is back", t.after(NONE), 98);
         is("a 101st still", layFrom(t, 1, 0, 0, 99, 0, 1, 99, 0), -5);
+        for (int s : new int[] {99, 100, 101}) {
+            noStick("stick " + s, () -> t.told(s, 0));
+            noStick("layer of " + s, () -> t.layer(s));
+            is("a proof of " + s, t.push(s), 1);
+            is("its check", t.check(0), 0);
+        }
+        is("after(98)", t.after(98), NONE);
+        is("pairs", t.count(5), 0);
         is("a missing row", t.lay(0, 0, 3, 0, 1), -1);
         is("a number beyond", layFrom(t, 1, 0, 0, 1001, 0, 1, 99, 0), -3);
         is("one that touches", t.lay(0, 0, 0, 0, 1), -5);
