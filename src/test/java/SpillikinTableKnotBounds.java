@@ -144,6 +144,16 @@ public final class SpillikinTableKnotBounds extends TableCheck {
         is("what is not held", order(knot), "4 0");
         is("the next", knot.order(2), NONE);
         is("of a knot alone", order(twoHooks()), "");
+        SpillikinTable most = table();
+        for (int i = 0; i < 37; i++) {
+            stick(most, 100 + i, 0, 0, 100 + i, 9, 0);
+        }
+        addRing(most, 1, 0);
+        is("37 beside a knot: the last", most.order(36), 36);
+        is("the next", most.order(37), NONE);
+        is("knots", most.knots(), 1);
+        is("the knot's sticks", knot(most, 0), "37 38 39");
+        is("layer", most.layer(0), NONE);
     }
 
     static void knotsOfTwoOrMore() {
@@ -456,12 +466,14 @@ public final class SpillikinTableKnotBounds extends TableCheck {
         is("two lack", two.check(1), 0);
         is("one twice", checked(two, 1, 0, 0), 1);
         is("round and round", checked(two, 1, 0, 1, 0, 1), 2);
+        is("round and round from the other on", checked(two, 1, 1, 0, 1, 0), 2);
         is("one that is not there", checked(two, 1, 2), 0);
         is("then one that is not there", checked(two, 1, 0, 2), 1);
         SpillikinTable t = ring(1, 0);
         for (int from = 0; from < 3; from++) {
             is("from " + from, checked(t, 1, from, (from + 2) % 3, (from + 1) % 3), NONE);
             is("the wrong way from " + from, checked(t, 1, from, (from + 1) % 3, (from + 2) % 3), 1);
+            is("round and to " + from, checked(t, 1, from, (from + 2) % 3, (from + 1) % 3, from), 3);
         }
         says(28, "not barring the one ahead");
         is("the third", checked(t, 1, 0, 2, 0), 2);

@@ -4,6 +4,7 @@ import java.lang.reflect.Modifier;
 import java.math.BigInteger;
 import java.util.ArrayList;
 import java.util.Arrays;
+import java.util.Collections;
 import java.util.Comparator;
 import java.util.HashSet;
 import java.util.List;
@@ -888,6 +889,13 @@ public final class SpillikinTableModel {
                     : m.table.get(random.nextInt(m.table.size())).number;
         }
 
+        /** What a table answers after 512 calls is free: a run that is longer would test nothing. */
+        void end(long begun) {
+            if (calls - begun > 512) {
+                throw new AssertionError(name + " has " + (calls - begun) + " calls");
+            }
+        }
+
         void start() {
             long begun = calls;
             for (int i = 0; i < 2; i++) {
@@ -899,10 +907,15 @@ public final class SpillikinTableModel {
             while (calls - begun < 250 && m.table.size() < most) {
                 layOne();
             }
-            // a step is at most some 100 calls
-            while (calls - begun < 400) {
+            stepOn(begun);
+        }
+
+        /** A step is at most some 180 calls. */
+        void stepOn(long begun) {
+            while (calls - begun < 320) {
                 step();
             }
+            end(begun);
         }
 
         /** As many sticks as there can be, far more than start() has calls for. */
@@ -910,7 +923,7 @@ public final class SpillikinTableModel {
             long begun = calls;
             due(name, "box(2)", () -> t.box(2), () -> m.box(2));
             due(name, "row(0, 0, 9)", () -> t.row(0, 0, 9), () -> m.row(0, 0, 9));
-            while (calls - begun < 330 && m.table.size() < 40) {
+            while (calls - begun < 300 && m.table.size() < 40) {
                 for (int i = 0; i < 4; i++) {
                     int at = random.nextInt(9);
                     int v = within(far);
@@ -920,8 +933,38 @@ public final class SpillikinTableModel {
                 due(name, "lay(" + kind + ", 0, 0, 0, 1)", () -> t.lay(kind, 0, 0, 0, 1), () -> m.lay(kind, 0, 0, 0, 1));
             }
             MET[7] = Math.max(MET[7], m.table.size());
-            while (calls - begun < 400) {
+            stepOn(begun);
+        }
+
+        /** Sticks round circles, each of which rises over the next: long rings, and knots of about 12. */
+        void circles() {
+            long begun = calls;
+            due(name, "box(0)", () -> t.box(0), () -> m.box(0));
+            due(name, "row(0, 0, 9)", () -> t.row(0, 0, 9), () -> m.row(0, 0, 9));
+            List<int[]> round = new ArrayList<>();
+            for (int circle = random.nextInt(2); circle >= 0; circle--) {
+                addCircle(round, circle * 500, 3 + random.nextInt(circle == 0 ? 12 : 5));
+            }
+            Collections.shuffle(round, random);
+            for (int[] numbers : round) {
+                layRow(new int[] {0, 2, 3}[random.nextInt(3)], numbers);
+            }
+            while (calls - begun < 250) {
+                seeKnots();
                 step();
+            }
+            stepOn(begun);
+        }
+
+        void addCircle(List<int[]> round, int z, int n) {
+            for (int i = 0; i < n; i++) {
+                double x = Math.cos(2 * Math.PI * i / n);
+                double y = Math.sin(2 * Math.PI * i / n);
+                double half = (360 + random.nextInt(120)) * Math.tan(Math.PI / n);
+                int rise = 10 + random.nextInt(60);
+                round.add(new int[] {
+                    (int) Math.round(300 * x + half * y), (int) Math.round(300 * y - half * x), z - rise,
+                    (int) Math.round(300 * x - half * y), (int) Math.round(300 * y + half * x), z + rise});
             }
         }
 
@@ -937,6 +980,7 @@ public final class SpillikinTableModel {
                     anyCall();
                 }
             }
+            end(begun);
         }
 
         void anyCall() {
@@ -974,10 +1018,17 @@ public final class SpillikinTableModel {
 
         void layOne() {
             int kind = random.nextInt(10) < hooks ? 1 : new int[] {0, 2, 3}[random.nextInt(3)];
-            int n = kind == 1 ? 9 : 6;
-            for (int i = 0; i < n; i++) {
+            int[] numbers = new int[kind == 1 ? 9 : 6];
+            for (int i = 0; i < numbers.length; i++) {
+                numbers[i] = flat && i % 3 == 1 ? within(50) / 50 : within(far);
+            }
+            layRow(kind, numbers);
+        }
+
+        void layRow(int kind, int... numbers) {
+            for (int i = 0; i < numbers.length; i++) {
                 int at = i;
-                int v = flat && i % 3 == 1 ? within(50) / 50 : within(far);
+                int v = numbers[i];
                 due(name, "put(0, 0, " + at + ", " + v + ")", () -> t.put(0, 0, at, v), () -> m.put(0, 0, at, v));
             }
             int mark = kind >= 2 ? random.nextInt(128) : 0;
@@ -1170,11 +1221,11 @@ public final class SpillikinTableModel {
             } else if (spoil == 1) {
                 row.add(random.nextInt(row.size() + 1), number());
             } else if (spoil == 2 && row.size() > 1) {
-                java.util.Collections.swap(row, 0, random.nextInt(row.size()));
+                Collections.swap(row, 0, random.nextInt(row.size()));
             } else if (spoil == 3) {
                 row.clear();
             } else if (spoil == 4) {
-                java.util.Collections.rotate(row, 1);
+                Collections.rotate(row, 1);
             }
             for (int s : row) {
                 due(name, "push(" + s + ")", () -> t.push(s), () -> m.push(s));
@@ -1221,11 +1272,19 @@ public final class SpillikinTableModel {
         for (int i = 0; i < runs / 2; i++) {
             new Run(seed + i, fars[i % 5], steeps[i % 4], 40, i % 3 * 4, i % 6 > 3).wild();
         }
+        for (int i = 0; i < runs / 4; i++) {
+            new Run(seed + i, 300, steeps[i % 4], 40, 0, false).circles();
+        }
         System.out.println(calls + " calls; crossings " + MET[0] + ", knots " + MET[1] + ", greatest " + MET[2]
                 + ", longest ring " + MET[3] + ", most few " + MET[4] + ", too great " + MET[5] + ", deepest layer "
                 + MET[6] + ", fullest table " + MET[7]);
         System.out.println(wrong == 0 ? "all answers are as due" : wrong + " answers are not as due");
-        if (wrong != 0) {
+        boolean metAll = MET[0] > 500 && MET[1] > 100 && MET[2] > 12 && MET[3] >= 10 && MET[4] >= 3 && MET[5] > 0
+                && MET[6] >= 5 && MET[7] == 40;
+        if (args.length == 0 && !metAll) {
+            System.out.println("the drawn runs met too little");
+        }
+        if (wrong != 0 || (args.length == 0 && !metAll)) {
             System.exit(1);
         }
     }
